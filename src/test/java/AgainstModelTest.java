@@ -1,0 +1,202 @@
+import java.lang.reflect.Method;
+import java.util.ArrayList;
+import java.util.List;
+import java.util.Random;
+
+/** Runs of drawn calls (the same ones each time) on BalloonTown and on the Model. */
+public final class AgainstModelTest {
+    /** Each call with the range of each of its numbers; one in ten is drawn beyond it. */
+    private static final String[] CALLS = {
+        "warm 0 23 -20 40", "warmth 0 23", "gap 1 20", "gap 1 4", "balloon 0 5 0 9 0 2", "balloonOf 0 5 0 11",
+        "balloonOf 0 5 3 11", "becomes 0 5 2 8 0 9", "becomes 0 5 3 8 0 99", "becomes 0 5 2 2 0 5",
+        "becomes 0 5 3 3 0 60", "becomes 0 5 4 4 1 99", "becomes 0 5 5 6 0 999", "becomes 0 5 5 5 60 200",
+        "becomes 0 5 6 6 0 80", "becomes 0 5 7 7 0 99", "becomes 0 5 8 8 0 9",
+        "mind 0 5 0 5 0 9", "pour 0 5 1 999", "pour 0 5 1 20", "give 0 5 0 5 0 1 1 99", "give 0 5 0 5 0 1 1 9",
+        "give 0 5 0 5 0 1 1 9", "touches 0 5", "above 0 5 0 1", "hours 0 3", "hours 0 48", "clock 0 96",
+        "clock 0 30", "height 0 5 0 48", "first 0 1", "clear 0 5 0 48", "clear 0 5 0 3", "leastSand 0 5 0 24",
+        "leastSand 0 5 0 5", "ropeFor 0 5 0 24", "ropeFor 0 5 0 5", "columnFor 0 5 0 24", "columnFor 0 5 0 5",
+        "lasts 0 5", "reached 0 5", "help 1 24", "help 1 6", "cold", "highest 0 48", "highest 0 9",
+        "seed -2147483648 2147483647", "draw 0 23", "prove 0 5 1 20", "row 0 19 0 2", "row 0 5 0 2",
+        "alterRow 0 19 0 2 0 99", "judge 0 5", "judge 0 5", "warms 0 3 0 40 0 23 0 24", "warms 0 3 0 9 0 9 0 9",
+        "sheet 0 3 -1 3 0 40", "sheet 0 3 0 0 20 40", "put 0 3 0 40 -100000 100000", "put 0 3 0 9 -40 60",
+        "item 0 3 0 3 0 40", "item 0 3 0 3 0 9", "shelf 0 3 0 2 0 3", "shelf 0 3 0 0 0 5", "taken 0 3 0 5",
+        "taken 0 3 0 13", "act 0 3 0 3 -9 9", "act 0 3 0 3 -2147483648 2147483647", "trace 0 10", "many 0 5",
+        "keep", "again",
+    };
+    private static final String[] KINDS = {"balloon", "silk", "leaky", "patched", "chapel", "barge"};
+    private static final int[] FAR = {Integer.MIN_VALUE, Integer.MAX_VALUE, -1, 0, 100, 1000, -1000000};
+
+    private final Random random = new Random(20261118);
+    private final Check check = new Check();
+    private final List<String> said = new ArrayList<>();
+    private BalloonTown town;
+    private Model model;
+    private boolean same;
+
+    public static void main(String[] args) throws Exception {
+        AgainstModelTest test = new AgainstModelTest();
+        int runs = args.length > 0 ? Integer.parseInt(args[0]) : 400;
+        for (int run = 0; run < runs; run++) {
+            test.run(run);
+        }
+        test.check.end();
+    }
+
+    private void run(int run) throws Exception {
+        check.part("run " + run);
+        town = new BalloonTown();
+        model = new Model();
+        said.clear();
+        same = true;
+        boolean onlyTexts = run % 4 == 3;
+        int first = random.nextInt(7);
+        for (int i = 0; i < first; i++) {
+            both("balloon", new int[] {random.nextInt(6), random.nextInt(10), random.nextInt(2)});
+        }
+        while (said.size() < 400 && same) {
+            if (random.nextInt(onlyTexts ? 2 : 60) == 0) {
+                tell();
+            } else {
+                drawnCall();
+            }
+        }
+    }
+
+    private void drawnCall() throws Exception {
+        String[] words = CALLS[random.nextInt(CALLS.length)].split(" ");
+        int[] numbers = new int[(words.length - 1) / 2];
+        for (int i = 0; i < numbers.length; i++) {
+            numbers[i] = drawn(Integer.parseInt(words[2 * i + 1]), Integer.parseInt(words[2 * i + 2]));
+        }
+        both(words[0], numbers);
+    }
+
+    private int drawn(int least, int most) {
+        int way = random.nextInt(40);
+        if (way == 0) return FAR[random.nextInt(FAR.length)];
+        if (way == 1) return least - 1;
+        if (way == 2) return most + 1;
+        if (way == 3) return least;
+        if (way == 4) return most;
+        return (int) (least + (long) (random.nextDouble() * ((long) most - least + 1)));
+    }
+
+    private void both(String name, int[] numbers) throws Exception {
+        Class<?>[] types = new Class<?>[numbers.length];
+        Object[] values = new Object[numbers.length];
+        StringBuilder call = new StringBuilder(name).append('(');
+        for (int i = 0; i < numbers.length; i++) {
+            types[i] = int.class;
+            values[i] = numbers[i];
+            call.append(i == 0 ? "" : ", ").append(numbers[i]);
+        }
+        Method mine = BalloonTown.class.getMethod(name, types);
+        Method due = Model.class.getMethod(name, types);
+        compare(call.append(')').toString(), (Integer) mine.invoke(town, values), (Integer) due.invoke(model, values));
+    }
+
+    private void compare(String call, int got, int want) {
+        said.add(call);
+        check.due(call, got, want);
+        if (got != want && same) {
+            same = false;
+            System.out.println(String.join("; ", said));
+        }
+    }
+
+    // ---- texts
+
+    private void tell() throws Exception {
+        String text = drawnText();
+        for (int at = 0; at < text.length(); at += 8) {
+            int n = Math.min(8, text.length() - at);
+            long eight = Check.packed(text, at, n);
+            if (n < 8) {
+                eight |= random.nextLong() << 8 * n;
+            }
+            compare("feed(" + eight + ", " + n + ")", town.feed(eight, n), model.feed(eight, n));
+        }
+        if (random.nextInt(30) == 0) {
+            int n = random.nextInt(11) - 1;
+            compare("feed(0, " + n + ")", town.feed(0, n), model.feed(0, n));
+        }
+        compare("town()", town.town(), model.town());
+        for (int i = 0; i < 6; i++) {
+            for (int what = 0; what < 9 && random.nextInt(3) > 0; what++) {
+                both("balloonOf", new int[] {i, what});
+            }
+        }
+    }
+
+    private String drawnText() {
+        StringBuilder text = new StringBuilder();
+        int statements = random.nextInt(9);
+        for (int i = 0; i < statements; i++) {
+            statement(text);
+        }
+        if (random.nextInt(3) == 0 && text.length() > 0) {
+            spoil(text);
+        }
+        return text.toString();
+    }
+
+    private void statement(StringBuilder text) {
+        switch (random.nextInt(6)) {
+            case 0:
+                text.append("warm ").append(num(0, 23)).append(' ').append(num(0, 40));
+                break;
+            case 1:
+                text.append("cold ").append(num(0, 23)).append(' ').append(num(0, 20));
+                break;
+            case 2:
+                text.append("gap").append(blanks()).append(num(1, 20));
+                break;
+            default:
+                text.append(KINDS[random.nextInt(6)]).append(blanks()).append(num(0, 9)).append(blanks());
+                text.append("in").append(blanks()).append(num(0, 5));
+                part(text, "gas", 0, 999);
+                part(text, "sand", 0, 999);
+                part(text, "rope", 1, 99);
+                part(text, "bread", 0, 99);
+                part(text, "mouths", 0, 9);
+        }
+        text.append(blanks()).append(';').append(blanks());
+    }
+
+    private void part(StringBuilder text, String name, int least, int most) {
+        if (random.nextInt(4) == 0) {
+            text.append(blanks()).append(name).append(blanks()).append(num(least, most));
+        }
+    }
+
+    private String num(int least, int most) {
+        int way = random.nextInt(60);
+        if (way == 0) return "" + (most + 1);
+        if (way == 1) return "0" + least;
+        if (way == 2) return "000" + least;
+        if (way == 3 && least > 0) return "" + (least - 1);
+        if (way == 4) return "" + most;
+        return "" + (least + random.nextInt(most - least + 1));
+    }
+
+    private String blanks() {
+        return " ".repeat(random.nextInt(3));
+    }
+
+    private void spoil(StringBuilder text) {
+        int at = random.nextInt(text.length());
+        switch (random.nextInt(4)) {
+            case 0:
+                text.setLength(at);
+                break;
+            case 1:
+                text.deleteCharAt(at);
+                break;
+            case 2:
+                text.setCharAt(at, (char) random.nextInt(256));
+                break;
+            default:
+                text.insert(at, " ;a9\n".charAt(random.nextInt(5)));
+        }
+    }
+}
