@@ -5,23 +5,25 @@ import java.util.Random;
 
 /** Runs of drawn calls (the same ones each time) on BalloonTown and on the Model. */
 public final class AgainstModelTest {
-    /** Each call with the range of each of its numbers; one in ten is drawn beyond it. */
+    /** Each call with its numbers: b a BALLOON's, else from..to; some are drawn beyond. */
     private static final String[] CALLS = {
-        "warm 0 23 -20 40", "warmth 0 23", "gap 1 20", "gap 1 4", "balloon 0 5 0 9 0 2", "balloonOf 0 5 0 11",
-        "balloonOf 0 5 3 11", "becomes 0 5 2 8 0 9", "becomes 0 5 3 8 0 99", "becomes 0 5 2 2 0 5",
-        "becomes 0 5 3 3 0 60", "becomes 0 5 4 4 1 99", "becomes 0 5 5 6 0 999", "becomes 0 5 5 5 60 200",
-        "becomes 0 5 6 6 0 80", "becomes 0 5 7 7 0 99", "becomes 0 5 8 8 0 9",
-        "mind 0 5 0 5 0 9", "pour 0 5 1 999", "pour 0 5 1 20", "give 0 5 0 5 0 1 1 99", "give 0 5 0 5 0 1 1 9",
-        "give 0 5 0 5 0 1 1 9", "touches 0 5", "above 0 5 0 1", "hours 0 3", "hours 0 48", "clock 0 96",
-        "clock 0 30", "height 0 5 0 48", "first 0 1", "clear 0 5 0 48", "clear 0 5 0 3", "leastSand 0 5 0 24",
-        "leastSand 0 5 0 5", "ropeFor 0 5 0 24", "ropeFor 0 5 0 5", "columnFor 0 5 0 24", "columnFor 0 5 0 5",
-        "lasts 0 5", "reached 0 5", "help 1 24", "help 1 6", "cold", "highest 0 48", "highest 0 9",
-        "seed -2147483648 2147483647", "draw 0 23", "prove 0 5 1 20", "row 0 19 0 2", "row 0 5 0 2",
-        "alterRow 0 19 0 2 0 99", "judge 0 5", "judge 0 5", "warms 0 3 0 40 0 23 0 24", "warms 0 3 0 9 0 9 0 9",
-        "sheet 0 3 -1 3 0 40", "sheet 0 3 0 0 20 40", "put 0 3 0 40 -100000 100000", "put 0 3 0 9 -40 60",
-        "item 0 3 0 3 0 40", "item 0 3 0 3 0 9", "shelf 0 3 0 2 0 3", "shelf 0 3 0 0 0 5", "taken 0 3 0 5",
-        "taken 0 3 0 13", "act 0 3 0 3 -9 9", "act 0 3 0 3 -2147483648 2147483647", "trace 0 10", "many 0 5",
-        "keep", "again",
+        "warm 0..23 -20..40", "warmth 0..23", "gap 1..20", "gap 1..4", "balloon 0..5 0..9 0..2",
+        "balloon 0..5 0..9 0..1", "balloonOf b 0..11", "balloonOf b 9..11", "becomes b 2..8 0..9",
+        "becomes b 3..8 0..99", "becomes b 2..2 0..5", "becomes b 3..3 0..60", "becomes b 3..3 0..20",
+        "becomes b 4..4 1..99", "becomes b 5..6 0..999", "becomes b 5..5 60..200", "becomes b 6..6 0..80",
+        "becomes b 6..6 980..999", "becomes b 7..7 0..99", "becomes b 8..8 0..9", "mind b 0..5 0..9",
+        "pour b 1..999", "pour b 1..20", "give b b 0..1 1..99", "give b b 0..1 1..9", "give b b 0..1 1..9",
+        "touches b", "above b 0..1", "hours 0..3", "hours 0..6", "hours 0..48", "clock 0..96", "clock 0..30",
+        "height b 0..48", "first 0..1", "clear b 0..48", "clear b 0..3", "leastSand b 0..24",
+        "leastSand b 0..5", "ropeFor b 0..24", "ropeFor b 0..5", "columnFor b 0..24", "columnFor b 0..5",
+        "lasts b", "reached b", "help 1..24", "help 1..6", "cold", "highest 0..48", "highest 0..9",
+        "seed -2147483648..2147483647", "draw 0..23", "prove b 1..20", "prove b 9..20", "row 0..19 0..2",
+        "row 0..5 0..2", "alterRow 0..19 0..2 0..99", "judge b", "judge b", "warms 0..3 0..40 0..23 0..24",
+        "warms 0..3 0..9 0..9 0..9", "sheet 0..3 -1..3 0..40", "sheet 0..1 0..0 20..40",
+        "put 0..3 0..40 -100000..100000", "put 0..1 0..9 -40..60", "item 0..3 0..3 0..40",
+        "item 0..1 0..0 0..9", "shelf 0..3 0..2 0..3", "shelf 0..3 0..0 b", "taken 0..3 0..5",
+        "taken 0..3 0..13", "act 0..3 0..3 -9..9", "act 0..3 0..3 -9..9",
+        "act 0..3 0..3 -2147483648..2147483647", "trace 0..10", "trace 0..5", "many 0..5", "keep", "again",
     };
     private static final String[] KINDS = {"balloon", "silk", "leaky", "patched", "chapel", "barge"};
     private static final int[] FAR = {Integer.MIN_VALUE, Integer.MAX_VALUE, -1, 0, 100, 1000, -1000000};
@@ -49,12 +51,16 @@ public final class AgainstModelTest {
         said.clear();
         same = true;
         boolean onlyTexts = run % 4 == 3;
-        int first = random.nextInt(7);
+        int first = random.nextInt(8);
         for (int i = 0; i < first; i++) {
             both("balloon", new int[] {random.nextInt(6), random.nextInt(10), random.nextInt(2)});
         }
+        for (int i = 0; i < 3; i++) {
+            both("shelf", new int[] {i, 0, i});
+            both("sheet", new int[] {i, i, 9});
+        }
         while (said.size() < 400 && same) {
-            if (random.nextInt(onlyTexts ? 2 : 60) == 0) {
+            if (random.nextInt(onlyTexts ? 2 : 200) == 0) {
                 tell();
             } else {
                 drawnCall();
@@ -64,21 +70,30 @@ public final class AgainstModelTest {
 
     private void drawnCall() throws Exception {
         String[] words = CALLS[random.nextInt(CALLS.length)].split(" ");
-        int[] numbers = new int[(words.length - 1) / 2];
+        int[] numbers = new int[words.length - 1];
         for (int i = 0; i < numbers.length; i++) {
-            numbers[i] = drawn(Integer.parseInt(words[2 * i + 1]), Integer.parseInt(words[2 * i + 2]));
+            String[] range = words[i + 1].split("\\.\\.");
+            numbers[i] = words[i + 1].equals("b") ? drawn(0, model.many(0) - 1)
+                : drawn(Integer.parseInt(range[0]), Integer.parseInt(range[1]));
+        }
+        if (words[0].equals("act")) {
+            both("act", numbers);
+            for (int i = 0; i < 12; i++) {
+                both("trace", new int[] {i});
+            }
+            return;
         }
         both(words[0], numbers);
     }
 
     private int drawn(int least, int most) {
-        int way = random.nextInt(40);
+        int way = random.nextInt(60);
         if (way == 0) return FAR[random.nextInt(FAR.length)];
         if (way == 1) return least - 1;
         if (way == 2) return most + 1;
         if (way == 3) return least;
         if (way == 4) return most;
-        return (int) (least + (long) (random.nextDouble() * ((long) most - least + 1)));
+        return most < least ? 0 : (int) (least + (long) (random.nextDouble() * ((long) most - least + 1)));
     }
 
     private void both(String name, int[] numbers) throws Exception {
@@ -130,7 +145,7 @@ public final class AgainstModelTest {
 
     private String drawnText() {
         StringBuilder text = new StringBuilder();
-        int statements = random.nextInt(9);
+        int statements = random.nextInt(13);
         for (int i = 0; i < statements; i++) {
             statement(text);
         }
