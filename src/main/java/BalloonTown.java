@@ -575,7 +575,7 @@ public final class BalloonTown {
     }
 
     private static int held(int v, int least, int most) {
-        return Math.max(least, Math.min(most, v));
+        return v < least ? least : v > most ? most : v;
     }
 
     private static boolean fits(int part, int v) {
@@ -963,26 +963,22 @@ public final class BalloonTown {
             end = 0;
             advance();
             for (int told = 0; told < MOST_BYTES && sort != END && fault == NONE; told++) {
-                readStatement(town);
+                int kind = kindHere();
+                if (kind != NONE) {
+                    readBalloon(town, kind);
+                } else if (isName("warm")) {
+                    readWarmth(town, WARMEST, 1);
+                } else if (isName("cold")) {
+                    readWarmth(town, -COLDEST, -1);
+                } else if (isName("gap")) {
+                    advance();
+                    town.gap = number(1, MOST_GAP);
+                } else {
+                    fail();
+                }
+                passSign(';');
             }
             return fault;
-        }
-
-        private void readStatement(Town town) {
-            int kind = kindHere();
-            if (kind >= 0) {
-                readBalloon(town, kind);
-            } else if (isName("warm")) {
-                readWarmth(town, WARMEST, 1);
-            } else if (isName("cold")) {
-                readWarmth(town, -COLDEST, -1);
-            } else if (isName("gap")) {
-                advance();
-                town.gap = number(1, MOST_GAP);
-            } else {
-                fail();
-            }
-            passSign(';');
         }
 
         private void readBalloon(Town town, int kind) {
@@ -1111,10 +1107,11 @@ public final class BalloonTown {
             if (place >= size) {
                 return END;
             }
-            if (within(bytes[place], 'a', 'z')) {
+            int sign = bytes[place];
+            if (sign >= 'a' && sign <= 'z') {
                 return NAME;
             }
-            return within(bytes[place], '0', '9') ? NUMBER : OTHER;
+            return sign >= '0' && sign <= '9' ? NUMBER : OTHER;
         }
     }
 

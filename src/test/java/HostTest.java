@@ -11,6 +11,7 @@ public final class HostTest {
         takenKinds();
         takenRows();
         acts();
+        moreActs();
         partedByNothing();
         wrapping();
         noAct();
@@ -180,6 +181,19 @@ public final class HostTest {
                 traceIs("kind " + kind + " act " + act, x, traces[kind][act]);
             }
         }
+    }
+
+    private static void moreActs() {
+        check.part("promise 40, other numbers");
+        BalloonTown x = held();
+        x.mind(1, 4, 3);
+        check.due("11 by 2, and ^ 1", x.act(0, SHARES, 9), 4);
+        x.mind(1, 2, 2);
+        check.due("66 ^ 2, and 1 by 1", x.act(0, TELLS, 10), 65);
+        x.mind(1, 3, 2);
+        check.due("-72 ^ 2, and 1 by 1", x.act(0, TELLS, 10), -69);
+        x.shelf(1, 0, 0);
+        check.due("another SHELF, number 0", x.act(1, SHARES, 10), 3);
     }
 
     private static void partedByNothing() {

@@ -54,6 +54,7 @@ public final class TextTest {
         check.due("the later one counts", Check.tell(x, "warm 3 5;cold 3 6;gap 4;gap 5;"), 0);
         check.due("cold", x.warmth(3), 94);
         check.due("gap", x.gap(1), 5);
+        check.due("cold 0 is gone with the town before", x.warmth(0), 100);
     }
 
     private static void blanks() {

@@ -287,6 +287,7 @@ public final class TownTest {
         x.becomes(0, HEIGHT, 0);
         x.becomes(1, HEIGHT, 1);
         check.due("one on the ground", x.touches(1), 0);
+        check.due("from the ground", x.touches(0), 0);
         x.becomes(1, HEIGHT, 0);
         check.due("both on the ground", x.touches(0), 0);
         x.gap(1);

@@ -18,10 +18,14 @@ public final class WillBeTest {
         bread();
         help();
         helpAsItCanBeGiven();
+        helpOfSeveral();
+        helpBehindTheLastHour();
         cold();
         coldFromTheNextHourOn();
         highest();
         drawing();
+        inTheWarmthThatIs();
+        sixInOneColumn();
         check.end();
     }
 
@@ -186,6 +190,7 @@ public final class WillBeTest {
     private static void columns() {
         check.part("promise 22");
         BalloonTown x = nearing();
+        check.due("now", x.columnFor(0, 0), 0);
         check.due("its own", x.columnFor(0, 1), 0);
         check.due("the next", x.columnFor(0, 2), 1);
         x.balloon(0, 0, 1);
@@ -272,6 +277,83 @@ public final class WillBeTest {
         check.due("not too far", x.help(1), 10);
         x.becomes(1, 2, 1);
         check.due("another COLUMN", x.help(1), -3);
+    }
+
+    /** 0 and 1 stay 20 apart and so clear, but for the gift 10; 2 and 3 touch, but for the gift 23. */
+    private static void helpOfSeveral() {
+        check.part("promise 25, of several");
+        BalloonTown x = Check.townOf("balloon 0 in 0 sand 40 mouths 0;balloon 0 in 0 sand 60 mouths 0;"
+            + "balloon 0 in 1 sand 40 mouths 0;balloon 0 in 1 mouths 0;gap 20;");
+        int[] heights = {40, 20, 40, 30};
+        for (int i = 0; i < 4; i++) {
+            x.becomes(i, HEIGHT, heights[i]);
+        }
+        check.due("each gift is tried from all as it is", x.help(5), 23);
+        x.becomes(2, SAND, 9);
+        check.due("without 23 they touch by any gift", x.help(5), 1);
+    }
+
+    /** 0 stays at 14 on its ROPE; 1 goes from 34 by the gift 01 to 24 and 14, by 10 it stays. */
+    private static void helpBehindTheLastHour() {
+        check.part("promise 25, the last HOUR");
+        BalloonTown x = Check.townOf("balloon 0 in 0 gas 999 rope 14 mouths 0;balloon 0 in 0 sand 56 mouths 0;");
+        x.becomes(0, HEIGHT, 14);
+        x.becomes(1, HEIGHT, 34);
+        check.due("behind 1 HOUR 1 is at 24 or 34", x.help(1), 1);
+        check.due("behind 2 HOURS it is at 14 or 34", x.help(2), 10);
+    }
+
+    private static void inTheWarmthThatIs() {
+        check.part("promises 17 to 33, WARMTH");
+        BalloonTown x = nearing();
+        for (int hour = 0; hour < 24; hour++) {
+            x.warm(hour, 10);
+        }
+        x.becomes(0, GAS, 90);
+        x.becomes(1, GAS, 999);
+        x.becomes(1, ROPE, 34);
+        check.due("99 - 66", x.height(0, 9), 33);
+        check.due("leastSand: 37 beside 34", x.leastSand(0, 24), 4);
+        check.due("ropeFor: 31 beside 34", x.ropeFor(0, 24), 31);
+        x.becomes(1, ROPE, 37);
+        x.becomes(0, SAND, 44);
+        check.due("columnFor: 35 beside 37", x.columnFor(0, 24), 1);
+        x.becomes(0, SAND, 45);
+        check.due("columnFor: 34 beside 37", x.columnFor(0, 24), 0);
+        x.mind(0, 1, 0);
+        x.becomes(0, SAND, 50);
+        check.due("highest: 38 of a silk one, and 37", x.highest(24), 0);
+        x.becomes(0, SAND, 51);
+        check.due("highest: 37 and 37", x.highest(24), 0);
+        x.becomes(0, SAND, 52);
+        check.due("highest: 36 and 37", x.highest(24), 1);
+        x.prove(0, 9);
+        check.due("prove", x.row(8, 0), 36);
+        check.due("judge", x.judge(0), 0);
+        x.warm(8, 9);
+        check.due("judge: HOUR 8 is colder by 1", x.judge(0), 9);
+    }
+
+    private static void sixInOneColumn() {
+        check.part("six");
+        BalloonTown x = Check.townOf("silk 0 in 5;silk 0 in 5;silk 0 in 5;silk 0 in 5;silk 0 in 5;silk 0 in 5;");
+        check.due("first", x.first(0), 1);
+        check.due("which", x.first(1), 1);
+        check.due("help", x.help(24), 1);
+        check.due("40 keeps all on the ground", x.cold(), 40);
+        check.due("highest", x.highest(1), 0);
+        check.due("columnFor", x.columnFor(5, 24), 0);
+        check.due("prove", x.prove(5, 1), 1);
+        check.due("with five", x.row(0, 2), 5);
+        x.hours(1);
+        check.due("pairs", x.many(1), 15);
+        for (int i = 0; i < 6; i++) {
+            check.due("touches " + i, x.touches(i), 63 - (1 << i));
+            check.due("above " + i, x.above(i, 0), i == 5 ? -3 : i + 1);
+            check.due("below " + i, x.above(i, 1), i == 0 ? -3 : i - 1);
+        }
+        check.due("reached", x.reached(5), 16);
+        check.due("leastSand", x.leastSand(5, 0), -3);
     }
 
     /** 0 hangs at 10 on its ROPE; 1, a silk one, sinks from its HEIGHT by 2 for 1 of cold. */
