@@ -329,7 +329,7 @@ public final class BalloonTown {
     public int cold() {
         for (int colder = MOST_COLDER; colder >= 1; colder--) {
             trial.run(HOURS_OF_DAY, colder);
-            if (trial.pairsToCome() == 0) {
+            if (trial.isClearForAll()) {
                 return colder;
             }
         }
@@ -903,7 +903,17 @@ public final class BalloonTown {
             return NONE;
         }
 
-        int pairsToCome() {
+        /** Behind the HOURS to come: what touches now doesn't count. */
+        boolean isClearForAll() {
+            for (int behind = 1; behind <= last; behind++) {
+                if (leastPair(behind) != NONE) {
+                    return false;
+                }
+            }
+            return true;
+        }
+
+        private int pairsToCome() {
             int ends = 0;
             for (int behind = 1; behind <= last; behind++) {
                 for (int i = 0; i < town.count; i++) {
